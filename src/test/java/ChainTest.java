@@ -196,6 +196,10 @@ final class ChainTest {
         Due.chainIs("method", x, 0, 0, 2, 2, 1, 0, 0, 16, 32);
         Due.chainIs("alone: bound ones stay", x, 0, 1, 1, 0, 16, 32);
         Due.chainIs("event", x, 0, 4, 2, 2, 0, 32);
+        Due.is("an element of another chain", x.element(0, 1, 2), 16);
+        Due.is("an element of the first again", x.element(0, 0, 2), 1);
+        x.invoke(0, 1, 0);
+        Due.is("an element after an invocation", x.element(0, 4, 3), 32);
     }
 
     private static void longest() {

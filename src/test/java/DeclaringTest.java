@@ -113,7 +113,16 @@ final class DeclaringTest {
         x.binding(true);
         x.component(1);
         x.interceptor(1, 15, 0);
-        x.bind(0, -1, 0, 5);
+        x.bindInterceptor(0, 0, 0);
+        Due.is("deploy without bindings", x.deploy(), 0);
+        for (int m = 0; m < 7; m++) {
+            Due.chainIs("without bindings " + m, x, 0, m, 32);
+        }
+        x.clear();
+        x.binding(true);
+        x.component(1);
+        x.interceptor(1, 15, 0);
+        Due.is("room in a component", x.bind(0, -1, 0, 5), 0);
         Due.is("deploy the second", x.deploy(), 0);
         for (int m = 0; m < 7; m++) {
             Due.chainIs("second " + m, x, 0, m, 32);
@@ -355,7 +364,14 @@ final class DeclaringTest {
         Due.is("failing", x.flags(0, 1, 4), 0);
         Due.is("no flag", x.flags(0, 2, 7), 0);
         Due.is("no flag any more", x.flags(0, 2, 0), 0);
+        for (int what = 0; what < 4; what++) {
+            Due.is("not failing", x.flags(1, what, what), 0);
+        }
         Due.is("deploy", x.deploy(), 0);
+        for (int what = 0; what < 4; what++) {
+            x.invoke(1, what, 1);
+            Due.ended("not failing with " + what, x, 3 + what, 0);
+        }
         Due.chainIs("alone", x, 0, 0, 32);
         x.invoke(0, 0, 1);
         Due.ended("alone", x, 3, 0);
