@@ -106,7 +106,7 @@ final class DeployTest {
         Due.is("values that do not matter", without.deploy(), 0);
     }
 
-    /** Each type carries the next lower one, so that a single pass over them is never enough. */
+    /** All types in one ring, gone round in both orders: one of them needs a pass for each type. */
     private static void longCarrying() {
         for (int last = 0; last < 2; last++) {
             BoundChains x = withTypes(8);
