@@ -2,14 +2,28 @@
 final class Due {
     private static int wrong = 0;
     private static int compared = 0;
+    private static String about = "";
 
     private Due() {
+    }
+
+    /** What the comparisons from here on are for; told once, before the first wrong answer. */
+    static void about(String what) {
+        about = what;
+    }
+
+    static int compared() {
+        return compared;
     }
 
     static void is(String call, int got, int want) {
         compared++;
         if (got != want) {
             wrong++;
+            if (!about.isEmpty()) {
+                System.out.println(about + ":");
+                about = "";
+            }
             System.out.println(call + " answered " + got + ", due is " + want);
         }
     }
