@@ -390,38 +390,4 @@ final class RefusalSentencesTest {
             Due.is("cleared: " + call.name, call.made.applyAsInt(x), call.due);
         }
     }
-
-    /** The 512 calls of one object: 16 times 32, all of them looked at, the last one too. */
-    @Says(under = "What it is", words = "An object is used for at most 512 calls after it has been "
-        + "made; what later calls answer is free.")
-    static void anObjectIsGoodForFiveHundredAndTwelveCalls() {
-        BoundChains x = new BoundChains();
-        for (int round = 0; round < 16; round++) {
-            Due.is("binding", x.binding(true), 0);
-            for (int i = 0; i < 8; i++) {
-                Due.is("interceptor", x.interceptor(1, 15, i < 2 ? 0 : i == 2 ? 5 : 1), i);
-                Due.is("bindInterceptor", x.bindInterceptor(i, 0, round), 0);
-            }
-            Due.is("component", x.component(1), 0);
-            Due.is("bind", x.bind(0, -1, 0, round), 0);
-            Due.is("list", x.list(0, 0, 7), 0);
-            Due.is("flags", x.flags(0, 0, 2), 0);
-            Due.is("deploy", x.deploy(), 0);
-            Due.is("length", x.length(0, 0), 10);
-            Due.is("length of an event", x.length(0, 6), 9);
-            Due.is("element", x.element(0, 0, 0), 7);
-            Due.is("invoke", x.invoke(0, 0, 1), 64);
-            Due.is("result", x.result(), 0);
-            Due.is("error", x.error(), 99);
-            Due.is("log", x.log(0), 7);
-            Due.is("log 64", x.log(64), NOTHING);
-            if (round < 15) {
-                Due.is("closed", x.deploy(), CLOSED);
-                x.clear();
-            } else {
-                Due.is("the call before the last", x.invoke(0, 6, 1), 64);
-                Due.is("the last call", x.log(63), 7);
-            }
-        }
-    }
 }

@@ -10,13 +10,13 @@ import java.util.Set;
 
 /**
  * The words that the tests of sentences name stand in the document, under the heading they name,
- * and no word of "Terms" and of the promises is left without a test.
+ * and no word of "What it is", of "Terms" and of the promises is left without a test.
  */
 final class SentencesTest {
     private static final Path DOCUMENT = Path.of("../shared/DOC.md");
     private static final Class<?>[] TESTS = {DeclaringSentencesTest.class,
         DeploySentencesTest.class, ChainSentencesTest.class, InvokeSentencesTest.class,
-        RefusalSentencesTest.class};
+        RefusalSentencesTest.class, WholeSentencesTest.class};
 
     public static void main(String[] args) throws IOException {
         Map<String, String> sections = sections(Files.readString(DOCUMENT));
@@ -28,6 +28,7 @@ final class SentencesTest {
                 find(one, sections, tested);
             }
         }
+        everyWordIsTested("What it is", sections, tested);
         everyWordIsTested("Terms", sections, tested);
         for (int promise = 1; promise <= 18; promise++) {
             everyWordIsTested("Promise " + promise, sections, tested);
